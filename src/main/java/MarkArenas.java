@@ -704,15 +704,15 @@ public final class MarkArenas {
         }
 
         boolean hasMet(int object) {
-            return placeOf(object) != NONE;
+            return object >= 0 && object < OBJECTS && place[object] != NONE;
         }
 
         int placeOf(int object) {
-            return isNumber(object) ? place[object] : NONE;
+            return object >= 0 && object < OBJECTS ? place[object] : NONE;
         }
 
         int stepsTo(int object) {
-            return isNumber(object) ? steps[object] : NONE;
+            return object >= 0 && object < OBJECTS ? steps[object] : NONE;
         }
 
         void meet(int object, int stepsFromFirst) {

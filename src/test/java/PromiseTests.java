@@ -244,6 +244,9 @@ public final class PromiseTests {
         x.link(3, 0, 1);
         x.link(3, 1, 2);
         refused("giveBack(6, ..)", x, INDEX, () -> x.giveBack(6, 6));
+        refused("giveBack(6, 0)", x, INDEX, () -> x.giveBack(6, 0));
+        refused("giveBack(-1, 0)", x, INDEX, () -> x.giveBack(-1, 0));
+        refused("giveBack(.., 6)", x, INDEX, () -> x.giveBack(0, 6));
         refused("giveBack(.., -1)", x, INDEX, () -> x.giveBack(0, -1));
         refused("giveBack to itself", x, ARGUMENT, () -> x.giveBack(0, 0));
         refused("giveBack of a free one to itself", x, ARGUMENT, () -> x.giveBack(5, 5));
@@ -268,7 +271,45 @@ public final class PromiseTests {
         due("giveBack: returned so far", x.count(9), 1);
         refused("giveBack: the one gone", x, INDEX, () -> x.object(1, 0));
         due("giveBack of an empty one", x.giveBack(3, 1), 0);
+        undoneReturn();
         pinnedAndFull();
+    }
+
+    private static void undoneReturn() {
+        MarkArenas x = opened(3);
+        makeMany(x, 0, 3, 2);
+        x.make(1, 7);
+        x.root(2, true);
+        x.link(3, 0, 1);
+        x.giveBack(0, 1);
+        x.make(2, 5);
+        x.undo();
+        x.undo();
+        due("giveBack undone: address", x.object(2, 1), 4);
+        due("giveBack undone: arena", x.object(2, 0), 0);
+        due("giveBack undone: one that was gone", x.object(0, 2), 2);
+        due("giveBack undone: a reference to one that was gone", x.object(3, 3), 1);
+        due("giveBack undone: mark", x.arena(1, 1), 7);
+        due("giveBack undone: laid anew so far", x.count(7), 0);
+        due("giveBack undone: gone so far", x.count(8), 0);
+        due("giveBack undone: returned so far", x.count(9), 0);
+        x.make(0, 1);
+        x.make(0, 9);
+        x.undo();
+        x.make(0, 8);
+        x.undo();
+        x.make(2, 6);
+        due("make after undo: another size", x.object(5, 2), 6);
+        x.undo();
+        x.undo();
+        x.root(2, false);
+        x.close(0);
+        x.make(1, 16);
+        x.undo();
+        x.undo();
+        due("close undone: gone so far", x.count(8), 0);
+        due("close undone: size", x.object(0, 2), 2);
+        due("close undone: a field of the first", x.object(3, 3), 1);
     }
 
     private static void pinnedAndFull() {
@@ -329,6 +370,36 @@ public final class PromiseTests {
                 }
             }
         }
+    }
+
+    private static void orderOfThoseNotMet() {
+        MarkArenas x = opened(4);
+        x.make(0, 1);
+        x.make(3, 1);
+        x.make(1, 9);
+        makeMany(x, 1, 3, 3);
+        x.close(3);
+        x.make(1, 2);
+        x.link(0, 0, 4);
+        x.link(0, 1, 3);
+        x.link(3, 0, 1);
+        x.link(4, 1, 2);
+        x.root(5, true);
+        x.set(0, 1);
+        x.set(1, 2);
+        // Only 5 is met from the roots; the others follow by ascending addresses: 2, 3, 4, 1.
+        int[] wanted = {NONE, 18, 3, 12, 15, 0};
+        for (int object = 0; object < 6; object++) {
+            due("not met: ifGiven(" + object + ", 2)", x.ifGiven(object, 2), wanted[object]);
+        }
+        due("not met: giveBack", x.giveBack(1, 2), 5);
+        for (int object = 1; object < 6; object++) {
+            due("not met: address of " + object, x.object(object, 1), wanted[object]);
+        }
+        due("the first object's field 0 still refers", x.object(0, 3), 4);
+        x.set(0, 0);
+        x.close(0);
+        due("the first object is gone, so are its references", x.object(4, 10), 0);
     }
 
     private static void remembering() {
@@ -491,6 +562,7 @@ public final class PromiseTests {
 
     private static void makeAllStops() {
         MarkArenas x = opened(2);
+        makeAllHolders();
         due("makeAll: no such holder", madeOf(x, 0, "1;1<2;1"), 1);
         due("makeAll: none is made", madeOf(x, 0, "1<23"), 0);
         due("makeAll: saved all the same", x.count(10), 4);
@@ -508,6 +580,16 @@ public final class PromiseTests {
         due("makeAll: 24 objects", x.count(0), 24);
         due("makeAll: no number", madeOf(x, 1, "1<0"), 0);
         due("makeAll: no reference either", x.object(0, 3), NONE);
+    }
+
+    private static void makeAllHolders() {
+        MarkArenas x = opened(1);
+        makeMany(x, 0, 21, 1);
+        due("makeAll: a holder of two signs", madeOf(x, 0, "2<19;4<10;3<23"), 3);
+        due("makeAll: 19 holds 21", x.object(19, 3), 21);
+        due("makeAll: 10 holds 22", x.object(10, 3), 22);
+        due("makeAll: 23 holds itself", x.object(23, 3), 23);
+        due("makeAll: no 24", x.count(0), 24);
     }
 
     private static void undo() {
@@ -552,7 +634,7 @@ public final class PromiseTests {
             calls[i].answer();
             due("undo of call " + i + ": left", x.undo(), 5);
             due("undo of call " + i + ": as before", withoutSaved(x), before);
-            x.set(0, 0);
+            x.set(1, (i + 1) % 3);
         }
     }
 
@@ -879,6 +961,7 @@ public final class PromiseTests {
         pin();
         giveBack();
         orders();
+        orderOfThoseNotMet();
         remembering();
         close();
         settings();
