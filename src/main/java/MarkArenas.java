@@ -675,17 +675,6 @@ public final class MarkArenas {
             }
             return number;
         }
-
-        boolean isReferredToFromOtherArenas(int object) {
-            for (int holder = 0; holder < OBJECTS; holder++) {
-                for (int field = 0; field < FIELDS; field++) {
-                    if (reference(holder, field) == object && !isIn(object, arenaOf[holder])) {
-                        return true;
-                    }
-                }
-            }
-            return false;
-        }
     }
 
     /** The objects that are met when references are followed from some first ones on. */
@@ -773,14 +762,26 @@ public final class MarkArenas {
             living.startAtRoots(state, NONE);
             living.follow(state, NONE, NONE);
             surviving.forget();
-            boolean remembers = state.settings[REMEMBERING] == 1;
             for (int object = 0; object < OBJECTS; object++) {
-                if (state.isIn(object, arena) && (living.hasMet(object)
-                        || remembers && state.isReferredToFromOtherArenas(object))) {
+                if (state.isIn(object, arena) && living.hasMet(object)) {
                     surviving.meet(object, 0);
                 }
             }
+            if (state.settings[REMEMBERING] == 1) {
+                meetRemembered(state, arena);
+            }
             surviving.follow(state, arena, NONE);
+        }
+
+        private void meetRemembered(State state, int arena) {
+            for (int holder = 0; holder < OBJECTS; holder++) {
+                for (int field = 0; field < FIELDS && !state.isIn(holder, arena); field++) {
+                    int to = state.reference(holder, field);
+                    if (state.isIn(to, arena)) {
+                        surviving.meet(to, 0);
+                    }
+                }
+            }
         }
 
         int survivingCells(State state) {
