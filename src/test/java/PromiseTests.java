@@ -1,75 +1,5 @@
 /** For each promise of the document: ordinary calls, the edges that it names, and wrong calls. */
-public final class PromiseTests {
-    private static final int NONE = MarkArenas.NONE;
-    private static final String INDEX = "IndexOutOfBoundsException";
-    private static final String ARGUMENT = "IllegalArgumentException";
-    private static final String STATE = "IllegalStateException";
-
-    private static int passed = 0;
-    private static int failed = 0;
-
-    private interface Call {
-        long answer();
-    }
-
-    private static void due(String what, long got, long want) {
-        if (got == want) {
-            passed++;
-        } else {
-            failed++;
-            System.out.println(what + " answered " + got + ", due is " + want);
-        }
-    }
-
-    private static void dueShare(String what, double got, double want) {
-        due(what, Double.doubleToLongBits(got), Double.doubleToLongBits(want));
-    }
-
-    /** The call throws this, and neither the state nor the buffer nor the saved states change. */
-    private static void refused(String what, MarkArenas x, String wanted, Call call) {
-        long before = x.digest();
-        String got = "nothing";
-        try {
-            call.answer();
-        } catch (RuntimeException e) {
-            got = e.getClass().getSimpleName();
-        }
-        boolean right = got.equals(wanted) && x.digest() == before;
-        if (right) {
-            passed++;
-        } else {
-            failed++;
-            System.out.println(what + " threw " + got + ", due is " + wanted
-                    + (x.digest() == before ? "" : "; and it changed something"));
-        }
-    }
-
-    private static MarkArenas opened(int arenas) {
-        MarkArenas x = new MarkArenas();
-        for (int i = 0; i < arenas; i++) {
-            x.open();
-        }
-        return x;
-    }
-
-    private static void type(MarkArenas x, String text) {
-        for (int i = 0; i < text.length(); i++) {
-            x.append(text.charAt(i));
-        }
-    }
-
-    private static int errorOf(String text) {
-        MarkArenas x = new MarkArenas();
-        type(x, text);
-        return x.firstError();
-    }
-
-    private static void makeMany(MarkArenas x, int arena, int number, int size) {
-        for (int i = 0; i < number; i++) {
-            x.make(arena, size);
-        }
-    }
-
+public final class PromiseTests extends Checks {
     private static void newObject() {
         MarkArenas x = new MarkArenas();
         for (int arena = 0; arena < 6; arena++) {
@@ -520,11 +450,6 @@ public final class PromiseTests {
         due("firstError: longer texts count", errorOf(full.toString()), 60);
     }
 
-    private static int madeOf(MarkArenas x, int arena, String text) {
-        type(x, text);
-        return x.makeAll(arena);
-    }
-
     private static void makeAll() {
         MarkArenas x = opened(2);
         due("makeAll", madeOf(x, 1, "16r;3<0;10r<1;2<3"), 4);
@@ -609,29 +534,19 @@ public final class PromiseTests {
         undoBringsAllBack();
     }
 
-    /** The digest, with an empty buffer, less what the number of saved states adds to it. */
-    private static long withoutSaved(MarkArenas x) {
-        long factor = 1;
-        int valuesBehind = 2 + 15 * x.count(0) + 9 * 6 + 3;
-        for (int value = 0; value < valuesBehind; value++) {
-            factor *= 31;
-        }
-        return x.digest() - factor * x.count(10);
-    }
-
     private static void undoBringsAllBack() {
         MarkArenas x = opened(3);
         makeMany(x, 0, 3, 3);
         x.root(1, true);
         x.link(1, 0, 2);
         x.giveBack(0, 1);
-        Call[] calls = {() -> x.open(), () -> x.make(1, 3), () -> x.link(1, 1, 1),
+        Answer[] calls = {() -> x.open(), () -> x.make(1, 3), () -> x.link(1, 1, 1),
             () -> x.root(2, true), () -> x.pin(1, true), () -> x.giveBack(1, 2),
             () -> x.close(2), () -> x.set(0, 1), () -> x.set(1, 2), () -> madeOf(x, 1, "1r<1;2"),
             () -> x.root(1, true), () -> x.pin(1, false), () -> x.set(0, 0)};
         for (int i = 0; i < calls.length; i++) {
             long before = withoutSaved(x);
-            calls[i].answer();
+            calls[i].get();
             due("undo of call " + i + ": left", x.undo(), 5);
             due("undo of call " + i + ": as before", withoutSaved(x), before);
             x.set(1, (i + 1) % 3);
@@ -875,39 +790,6 @@ public final class PromiseTests {
         dueShare("livingShare of all", x.livingShare(), 1.0);
     }
 
-    private static long digestOf(MarkArenas x, String buffer) {
-        long hash = 2741;
-        for (int what = 0; what < 11; what++) {
-            hash = 31 * hash + x.count(what);
-        }
-        hash = 31 * (31 * hash + x.setting(0)) + x.setting(1);
-        for (int number = 0; number < 24; number++) {
-            try {
-                x.object(number, 0);
-            } catch (IndexOutOfBoundsException e) {
-                continue;
-            }
-            hash = 31 * hash + number;
-            for (int what = 0; what < 12; what++) {
-                hash = 31 * hash + x.object(number, what);
-            }
-            hash = 31 * (31 * hash + x.ifGiven(number, 0)) + x.ifLost(number);
-        }
-        for (int arena = 0; arena < 6; arena++) {
-            for (int what = 0; what < 8; what++) {
-                hash = 31 * hash + x.arena(arena, what);
-            }
-            hash = 31 * hash + x.whyNot(arena, 1);
-        }
-        hash = 31 * hash + x.best();
-        hash = 31 * hash + Double.doubleToLongBits(x.livingShare());
-        hash = 31 * hash + buffer.length();
-        for (int i = 0; i < buffer.length(); i++) {
-            hash = 31 * hash + buffer.charAt(i);
-        }
-        return hash;
-    }
-
     private static void digest() {
         MarkArenas x = new MarkArenas();
         due("digest of nothing", x.digest(), digestOf(x, ""));
@@ -981,9 +863,6 @@ public final class PromiseTests {
         livingShare();
         digest();
         due("NONE", NONE, -1);
-        System.out.println("PromiseTests: " + passed + " answers as due, " + failed + " not");
-        if (failed != 0) {
-            System.exit(1);
-        }
+        end("PromiseTests");
     }
 }
