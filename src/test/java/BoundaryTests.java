@@ -533,6 +533,12 @@ public final class BoundaryTests extends Checks {
                 due("one behind an error, " + begun + "~1", errorOf(begun + "~1"), length);
             }
         }
+        answers("what was there before it was cleared does not count", () -> {
+            MarkArenas x = typed("1r<0;2;3");
+            x.clearBuffer();
+            x.append('1');
+            return x;
+        }, x -> x.firstError(), 1);
         changesNothing("with an error", () -> typed("1x1"), x -> x.firstError());
         changesNothing("without one", () -> typed("1r;"), x -> x.firstError());
     }
@@ -577,6 +583,14 @@ public final class BoundaryTests extends Checks {
         due("the field 0 of the object 1", x.object(1, 3), 3);
         due("the field 0 of the object 0", x.object(0, 3), 4);
         due("made so far", x.count(6), 5);
+        dueMade("what was there before it was cleared is not made", () -> {
+            MarkArenas y = opened(3);
+            type(y, "1;2;3;4");
+            y.clearBuffer();
+            return dropOne(y);
+        }, 0, "5", 1);
+        answers("a second text behind the first", () -> andThen(() -> opened(1),
+                y -> madeOf(y, 0, "1;2;3;4;5")), y -> madeOf(y, 0, "1r;1"), 2);
         sentence("up to the first one for which there is no room");
         for (int room = 0; room <= 16; room++) {
             int r = room;
@@ -773,6 +787,16 @@ public final class BoundaryTests extends Checks {
                 return x;
             }, x -> x.object(0, 9), t);
         }
+        answers("a number used again", () -> {
+            MarkArenas x = allRoots(row(0, 2, 1));
+            x.giveBack(0, 1);
+            x.root(0, false);
+            x.giveBack(1, 2);
+            x.make(2, 1);
+            return x;
+        }, x -> x.object(0, 9), 0);
+        answers("a return that is undone", () -> undone(andThen(BoundaryTests::two,
+                x -> x.giveBack(0, 1)), 1), x -> x.object(0, 9), 0);
         answers("others are returned into its arena", () -> andThen(BoundaryTests::two,
                 x -> x.giveBack(1, 0)), x -> x.object(0, 9), 0);
         sentence("10: fields that refer to it");
@@ -1233,6 +1257,13 @@ public final class BoundaryTests extends Checks {
             return x;
         };
         answers("no room for either", bothRoomless, x -> x.best(), NONE);
+        answers("no room for the one with the most dead cells", () -> {
+            MarkArenas x = opened(3);
+            madeOf(x, 0, "16r;16r;16r;10");
+            madeOf(x, 1, "10r;9");
+            madeOf(x, 2, "9r;8");
+            return x;
+        }, x -> x.best(), 1);
         answers("room for the second alone", () -> {
             MarkArenas x = opened(2);
             madeOf(x, 0, "16r;16r;16r;8");
@@ -1331,6 +1362,18 @@ public final class BoundaryTests extends Checks {
         dueDigest("kept", BoundaryTests::kept, "");
         dueDigest("none lives", () -> filled(1, 64), "");
         dueDigest("the least share", () -> allRoots(row(0, 1, 1)), "");
+        dueDigest("both settings at their most", () -> {
+            MarkArenas y = two();
+            y.set(0, 1);
+            y.set(1, 2);
+            return y;
+        }, "1");
+        dueDigest("two are carried on into the arena 0", () -> andThen(() -> opened(2),
+                y -> madeOf(y, 1, "3r;4<0;5")), "");
+        for (int cells = 1; cells <= 64; cells++) {
+            int c = cells;
+            dueDigest(c + " of 64 cells live", () -> fullOf(c), "");
+        }
         dueDigest("60 characters", () -> typed(SIXTY), SIXTY);
         changesNothing("digest", BoundaryTests::two, y -> y.digest());
     }

@@ -144,10 +144,33 @@ public final class RuleTests {
         }
     }
 
+    private static final String[] HEADS = {"arenas, objects", "open make link root pin giveBack close set",
+        "texts", "append clearBuffer firstError makeAll undo",
+        "looks; nothing is changed", "object arena at count setting",
+        "what would be; nothing is changed", "whyNot ifGiven ifLost best livingShare digest"};
+
+    /** The document's "Ahead of the calls": each head stands before its calls, in their order. */
+    private static void heads() throws IOException {
+        String text = Files.readString(SOURCE, StandardCharsets.ISO_8859_1);
+        int place = text.indexOf("    public MarkArenas()");
+        for (int i = 0; i < HEADS.length; i += 2) {
+            int next = text.indexOf("    // ---- " + HEADS[i] + "\n", place);
+            hold(next >= place, "no head in its place: " + HEADS[i]);
+            place = next;
+            for (String name : HEADS[i + 1].split(" ")) {
+                next = text.indexOf("    public " + (name.equals("livingShare") ? "double "
+                        : name.equals("digest") ? "long " : "int ") + name + "(", place);
+                hold(next >= place, "not behind its head: " + name);
+                place = next;
+            }
+        }
+    }
+
     public static void main(String[] args) throws IOException {
         face();
         members();
         source();
+        heads();
         System.out.println(wrong == 0 ? "RuleTests: all rules are kept" : wrong + " rules are broken");
         if (wrong != 0) {
             System.exit(1);

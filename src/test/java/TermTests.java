@@ -314,13 +314,48 @@ public final class TermTests extends Checks {
 
     // ---- Terms: returning
 
+    /** One object lives by roots, one is remembered, one leads back to it, one does not survive. */
+    private static MarkArenas mixed(int setting) {
+        MarkArenas x = with(2, "1;2r;3<0;4", "5");
+        x.link(4, 0, 2);
+        x.link(2, 1, 0);
+        x.set(0, setting);
+        return x;
+    }
+
+    private static void whoSurvives() {
+        head("Terms, returning");
+        sentence("An arena is returned into another open one: all objects of it that live (by"
+                + " setting 0) survive");
+        answers("setting 0 as 0", () -> mixed(0), x -> x.giveBack(0, 1), 1);
+        answers("setting 0 as 1", () -> mixed(1), x -> x.giveBack(0, 1), 3);
+        answers("setting 0 as 1: cells of these", () -> given(mixed(1), 0, 1), x -> x.arena(1, 1),
+                11);
+        int[][] there = {{0, 1}, {1, 1}, {0, 1}, {0, 0}};
+        for (int setting = 0; setting < 2; setting++) {
+            int s = setting;
+            for (int number = 0; number < 4; number++) {
+                int n = number;
+                if (there[n][s] == 1) {
+                    answers("object " + n + ", setting 0 as " + s, () -> given(mixed(s), 0, 1),
+                            x -> x.object(n, 0), 1);
+                } else {
+                    refused("object " + n + ", setting 0 as " + s, () -> given(mixed(s), 0, 1),
+                            INDEX, x -> x.object(n, 0));
+                }
+            }
+        }
+        refused("into itself", () -> mixed(0), ARGUMENT, x -> x.giveBack(0, 0));
+        refused("into a free one", () -> mixed(0), STATE, x -> x.giveBack(0, 2));
+        refused("a free one", () -> mixed(0), STATE, x -> x.giveBack(2, 0));
+    }
+
     private static MarkArenas given(MarkArenas x, int arena, int into) {
         x.giveBack(arena, into);
         return x;
     }
 
     private static void survivorsAreLaid() {
-        head("Terms, returning");
         sentence("they are laid into the other arena from its mark on, one behind the other,"
                 + " which moves the mark");
         Made empty = () -> given(with(2, "1;2r;3;4r"), 0, 1);
@@ -924,6 +959,7 @@ public final class TermTests extends Checks {
         livingByRoots();
         livingByMemory();
         livingByWhatIsRemembered();
+        whoSurvives();
         survivorsAreLaid();
         referencesFollow();
         returnedIsFree();
