@@ -471,16 +471,21 @@ public final class MarkArenas {
             }
         }
 
+        // Rule 4 of LANGUAGE.md names copies of rows of numbers: the rows of booleans go one by one.
         void copyFrom(State other) {
-            System.arraycopy(other.isUsed, 0, isUsed, 0, OBJECTS);
+            for (int object = 0; object < OBJECTS; object++) {
+                isUsed[object] = other.isUsed[object];
+                isRoot[object] = other.isRoot[object];
+                isPinned[object] = other.isPinned[object];
+            }
+            for (int arena = 0; arena < ARENAS; arena++) {
+                isHandedOut[arena] = other.isHandedOut[arena];
+            }
             System.arraycopy(other.arenaOf, 0, arenaOf, 0, OBJECTS);
             System.arraycopy(other.address, 0, address, 0, OBJECTS);
             System.arraycopy(other.size, 0, size, 0, OBJECTS);
             System.arraycopy(other.fields, 0, fields, 0, OBJECTS * FIELDS);
-            System.arraycopy(other.isRoot, 0, isRoot, 0, OBJECTS);
-            System.arraycopy(other.isPinned, 0, isPinned, 0, OBJECTS);
             System.arraycopy(other.laidAnew, 0, laidAnew, 0, OBJECTS);
-            System.arraycopy(other.isHandedOut, 0, isHandedOut, 0, ARENAS);
             System.arraycopy(other.mark, 0, mark, 0, ARENAS);
             System.arraycopy(other.opened, 0, opened, 0, ARENAS);
             System.arraycopy(other.settings, 0, settings, 0, SETTINGS);

@@ -1,3 +1,4 @@
+import java.io.DataInputStream;
 import java.io.IOException;
 import java.lang.reflect.Constructor;
 import java.lang.reflect.Field;
@@ -6,10 +7,13 @@ import java.lang.reflect.Modifier;
 import java.nio.charset.StandardCharsets;
 import java.nio.file.Files;
 import java.nio.file.Path;
+import java.util.ArrayList;
 import java.util.Arrays;
 import java.util.List;
 import java.util.Set;
 import java.util.TreeSet;
+import java.util.regex.Matcher;
+import java.util.regex.Pattern;
 import java.util.stream.Collectors;
 
 /** The face of the class, and those rules of LANGUAGE.md that can be told without its meaning. */
@@ -144,6 +148,53 @@ public final class RuleTests {
         }
     }
 
+    /** Rule 4: whole rows are copied where they hold numbers. */
+    private static void copies() throws IOException {
+        String text = Files.readString(SOURCE, StandardCharsets.ISO_8859_1);
+        Matcher copied = Pattern.compile("System\\.arraycopy\\((?:\\w+\\.)?(\\w+),").matcher(text);
+        while (copied.find()) {
+            hold(text.matches("(?s).*(int|long|char|byte)\\[\\] " + copied.group(1) + "\\b.*"),
+                    "a row of no numbers is copied: " + copied.group(1));
+        }
+    }
+
+    private static final Set<String> LIBRARY = Set.of("java/lang/Object", "java/lang/System",
+            "java/lang/String", "java/lang/IllegalStateException",
+            "java/lang/IllegalArgumentException", "java/lang/IndexOutOfBoundsException");
+
+    /** Rule 4: of the library the compiled classes name nothing but this. */
+    private static void library() throws IOException {
+        Set<String> named = new TreeSet<>(namedBy("MarkArenas"));
+        for (Class<?> one : MarkArenas.class.getDeclaredClasses()) {
+            named.addAll(namedBy(one.getName()));
+        }
+        named.removeIf(name -> name.matches("MarkArenas.*|\\[[IJCBZ]|\\[LMarkArenas.*"));
+        hold(LIBRARY.containsAll(named), "of the library it uses " + named);
+    }
+
+    private static Set<String> namedBy(String name) throws IOException {
+        try (DataInputStream in = new DataInputStream(
+                RuleTests.class.getResourceAsStream(name + ".class"))) {
+            in.skipBytes(8);
+            int entries = in.readUnsignedShort();
+            String[] texts = new String[entries];
+            List<Integer> classes = new ArrayList<>();
+            for (int entry = 1; entry < entries; entry++) {
+                int kind = in.readUnsignedByte();
+                if (kind == 1) {
+                    texts[entry] = in.readUTF();
+                } else if (kind == 7) {
+                    classes.add(in.readUnsignedShort());
+                } else {
+                    in.skipBytes(kind == 15 ? 3 : kind == 8 || kind == 16 || kind > 18 ? 2
+                            : kind == 5 || kind == 6 ? 8 : 4);
+                    entry += kind == 5 || kind == 6 ? 1 : 0;
+                }
+            }
+            return classes.stream().map(place -> texts[place]).collect(Collectors.toSet());
+        }
+    }
+
     private static final String[] HEADS = {"arenas, objects", "open make link root pin giveBack close set",
         "texts", "append clearBuffer firstError makeAll undo",
         "looks; nothing is changed", "object arena at count setting",
@@ -170,6 +221,8 @@ public final class RuleTests {
         face();
         members();
         source();
+        copies();
+        library();
         heads();
         System.out.println(wrong == 0 ? "RuleTests: all rules are kept" : wrong + " rules are broken");
         if (wrong != 0) {
