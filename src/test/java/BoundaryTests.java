@@ -200,8 +200,8 @@ public final class BoundaryTests extends Checks {
 
     private static void link() {
         head("Promise 4, link");
-        sentence("Changes a field. Undoable. Returns the previous reference, NONE if there was"
-                + " none");
+        sentence("Changes a field. Undoable. .. Returns the previous reference, NONE if there"
+                + " was none");
         answers("none before, field 0", BoundaryTests::two, x -> x.link(1, 0, 0), NONE);
         answers("none before, field 1", BoundaryTests::two, x -> x.link(0, 1, 0), NONE);
         answers("one before", BoundaryTests::two, x -> x.link(0, 0, NONE), 1);
@@ -245,7 +245,7 @@ public final class BoundaryTests extends Checks {
 
     private static void root() {
         head("Promise 5, root");
-        sentence("Makes an object a root, or none. Returns 1 if it was a root, otherwise 0");
+        sentence("Makes an object a root, or none. .. Returns 1 if it was a root, otherwise 0");
         answers("a root stays one", BoundaryTests::two, x -> x.root(0, true), 1);
         answers("a root no more", BoundaryTests::two, x -> x.root(0, false), 1);
         answers("none becomes one", BoundaryTests::two, x -> x.root(1, true), 0);
@@ -271,8 +271,8 @@ public final class BoundaryTests extends Checks {
 
     private static void pin() {
         head("Promise 6, pin");
-        sentence("Pins an object, or does not. Returns how many objects of its arena are pinned"
-                + " then");
+        sentence("Pins an object, or does not. .. Returns how many objects of its arena are"
+                + " pinned then");
         answers("the first", BoundaryTests::two, x -> x.pin(0, true), 1);
         answers("none stays none", BoundaryTests::two, x -> x.pin(0, false), 0);
         answers("the only one no more", () -> andThen(BoundaryTests::two, x -> x.pin(0, true)),
@@ -303,7 +303,7 @@ public final class BoundaryTests extends Checks {
 
     private static void giveBack() {
         head("Promise 7, giveBack");
-        sentence("Returns an arena into another one. Returns how many objects survive");
+        sentence("Returns an arena into another one. .. Returns how many objects survive");
         answers("none of none", () -> opened(2), x -> x.giveBack(0, 1), 0);
         answers("none of two", () -> andThen(BoundaryTests::two, x -> x.root(0, false)),
                 x -> x.giveBack(0, 1), 0);
@@ -311,7 +311,7 @@ public final class BoundaryTests extends Checks {
                 x -> x.giveBack(0, 1), 1);
         answers("two of two", BoundaryTests::two, x -> x.giveBack(0, 1), 2);
         answers("24 of 24", () -> allRoots(row(5, 24, 1)), x -> x.giveBack(5, 0), 24);
-        sentence("arena: 0 to 5; into: 0 to 5, another one");
+        sentence("arena: 0 to 5 .. into: 0 to 5, another one");
         for (int arena = 0; arena < 6; arena++) {
             for (int into = 0; into < 6; into++) {
                 int a = arena;
@@ -399,8 +399,8 @@ public final class BoundaryTests extends Checks {
 
     private static void close() {
         head("Promise 8, close");
-        sentence("Returns an arena none of whose objects survives. Returns how many objects are"
-                + " gone");
+        sentence("Returns an arena none of whose objects survives. .. Returns how many objects"
+                + " are gone");
         answers("none", () -> opened(1), x -> x.close(0), 0);
         answers("none, while others are there", BoundaryTests::two, x -> x.close(4), 0);
         answers("one", () -> row(5, 1, 16), x -> x.close(5), 1);
@@ -444,7 +444,7 @@ public final class BoundaryTests extends Checks {
 
     private static void set() {
         head("Promise 9, set");
-        sentence("Changes a setting. Returns the previous value");
+        sentence("Changes a setting. .. Returns the previous value");
         answers("0 before", MarkArenas::new, x -> x.set(1, 2), 0);
         answers("2 before", () -> andThen(MarkArenas::new, x -> x.set(1, 2)), x -> x.set(1, 0), 2);
         answers("1 before", () -> andThen(MarkArenas::new, x -> x.set(0, 1)), x -> x.set(0, 1), 1);
@@ -473,7 +473,7 @@ public final class BoundaryTests extends Checks {
 
     private static void append() {
         head("Promise 10, append");
-        sentence("Appends a character to the buffer. Returns the new length of the buffer");
+        sentence("Appends a character to the buffer. .. Returns the new length of the buffer");
         for (int length = 0; length < 60; length++) {
             int n = length;
             answers("behind " + n, () -> typed(SIXTY.substring(0, n)), x -> x.append('7'), n + 1);
